@@ -1,11 +1,8 @@
-/** Promises 1 to 9: the board. */
+/** Promises 1 to 9: the board. What is refused stands in BoundsTest. */
 public final class BoardTest {
-    private static final int[] WRONG_SIZES = {0, 5, -1, 6, Integer.MIN_VALUE, Integer.MAX_VALUE};
-
     public static void main(String[] args) {
         promise1NewObject();
         promise2Lay();
-        promise2LayRefuses();
         promises3And4CellsAndEdges();
         promise5Number();
         promise6Mark();
@@ -31,9 +28,9 @@ public final class BoardTest {
     }
 
     private static void promise2Lay() {
-        SlitherFence fence = new SlitherFence();
         for (int width = 1; width <= 4; width++) {
             for (int height = 1; height <= 4; height++) {
+                SlitherFence fence = new SlitherFence();
                 // twice, so that the same board laid again is an empty one, too
                 for (int n = 0; n < 2; n++) {
                     fence.lay(width, height);
@@ -49,20 +46,6 @@ public final class BoardTest {
                 }
             }
         }
-    }
-
-    private static void promise2LayRefuses() {
-        SlitherFence fence = Check.board(2, 4);
-        fence.number(3, 2);
-        fence.mark(1, SlitherFence.LINE);
-        fence.mark(2, SlitherFence.CROSS);
-        int answers = fence.answers();
-        for (int wrong : WRONG_SIZES) {
-            Check.refuses("2 lay 2 " + wrong, fence, IllegalArgumentException.class, () -> fence.lay(2, wrong));
-            Check.refuses("2 lay " + wrong + " 4", fence, IllegalArgumentException.class, () -> fence.lay(wrong, 4));
-            Check.refuses("2 lay " + wrong, fence, IllegalArgumentException.class, () -> fence.lay(wrong, wrong));
-        }
-        Check.same("2 answers after what was refused", fence.answers(), answers);
     }
 
     private static void promises3And4CellsAndEdges() {
@@ -86,15 +69,7 @@ public final class BoardTest {
         Check.same("5 one before", fence.number(0, 2), 1);
         Check.same("5 two before", fence.number(0, 2), 2);
         Check.same("5 another cell", fence.number(5, 1), SlitherFence.NONE);
-        fence.mark(0, SlitherFence.LINE);
-        for (int wrong : new int[] {-1, 6, 9, 15, Integer.MIN_VALUE, Integer.MAX_VALUE}) {
-            Check.refuses("5 cell " + wrong, fence, IndexOutOfBoundsException.class, () -> fence.number(wrong, 2));
-            Check.refuses("5 both, cell " + wrong, fence, IndexOutOfBoundsException.class, () -> fence.number(wrong, 4));
-        }
-        for (int wrong : new int[] {4, -2, 5, Integer.MIN_VALUE, Integer.MAX_VALUE}) {
-            Check.refuses("5 number " + wrong, fence, IllegalArgumentException.class, () -> fence.number(0, wrong));
-            Check.refuses("5 number " + wrong, fence, IllegalArgumentException.class, () -> fence.number(1, wrong));
-        }
+        Check.same("5 the first cell is as it was", fence.number(0, 2), 2);
     }
 
     private static void promise6Mark() {
@@ -107,18 +82,6 @@ public final class BoardTest {
                 before = state;
             }
         }
-        fence.mark(39, SlitherFence.LINE);
-        fence.mark(31, SlitherFence.CROSS);
-        fence.number(2, 1);
-        for (int wrong : new int[] {-1, 40, 64, 71, Integer.MIN_VALUE, Integer.MAX_VALUE}) {
-            Check.refuses("6 edge " + wrong, fence, IndexOutOfBoundsException.class, () -> fence.mark(wrong, 1));
-            Check.refuses("6 both, edge " + wrong, fence, IndexOutOfBoundsException.class, () -> fence.mark(wrong, 3));
-        }
-        for (int wrong : new int[] {3, -1, 5, Integer.MIN_VALUE, Integer.MAX_VALUE}) {
-            Check.refuses("6 state " + wrong, fence, IllegalArgumentException.class, () -> fence.mark(39, wrong));
-        }
-        fence.lay(1, 1);
-        Check.refuses("6 no longer an edge", fence, IndexOutOfBoundsException.class, () -> fence.mark(4, 1));
     }
 
     private static void promise7Wipe() {
@@ -128,7 +91,7 @@ public final class BoardTest {
         Check.markEach(fence, SlitherFence.LINE, 0, 3, 6);
         Check.markEach(fence, SlitherFence.CROSS, 1, 5);
         fence.wipe();
-        Check.same("7 wipe", Check.contents(fence), "2 cells, 7 edges; bottom of cell 0: 2; numbers: 3 0; marks: 0 0 0 0 0 0 0");
+        Check.same("7 wipe", Transcript.of(fence), Transcript.of(Drawing.fence("+ + +", " 3 0 ", "+ + +")));
         fence.wipe();
         Check.same("7 wipe again", fence.lines(), 0);
     }
@@ -156,29 +119,20 @@ public final class BoardTest {
     }
 
     private static void promise8MarkAllEndsBroken() {
-        SlitherFence fence = Check.board(3, 3);
-        fence.number(0, 1);
-        fence.mark(0, SlitherFence.LINE);
-        String before = Check.contents(fence);
-        Check.same("8 torn", fence.markAll(), 0);
-        Check.same("8 torn changes nothing", Check.contents(fence), before);
+        SlitherFence fence = Drawing.fence("+-+ + +", " 1     ", "+ + + +");
+        markAllChangesNothing("8 torn", fence);
 
-        fence.lay(2, 2);
-        fence.number(0, 2);
-        fence.number(3, 2);
-        fence.mark(0, SlitherFence.LINE);
-        fence.mark(8, SlitherFence.CROSS);
-        before = Check.contents(fence);
+        fence = Drawing.fence("+-+ +", " 2  x", "+ + +", "   2 ", "+ + +");
         Check.same("8 the rounds go on first", fence.rounds() > 0, true);
-        Check.same("8 broken later", fence.markAll(), 0);
-        Check.same("8 broken later changes nothing", Check.contents(fence), before);
+        markAllChangesNothing("8 broken later", fence);
 
-        fence.lay(2, 1);
-        fence.mark(0, SlitherFence.LINE);
-        fence.mark(2, SlitherFence.CROSS);
-        before = Check.contents(fence);
-        Check.same("8 broken at once", fence.markAll(), 0);
-        Check.same("8 broken at once changes nothing", Check.contents(fence), before);
+        markAllChangesNothing("8 broken at once", Drawing.fence("+-+ +", "     ", "+x+ +"));
+    }
+
+    private static void markAllChangesNothing(String name, SlitherFence fence) {
+        String before = Transcript.of(fence);
+        Check.same(name, fence.markAll(), 0);
+        Check.same(name + " changes nothing", Transcript.of(fence), before);
     }
 
     private static void promise9EdgeOf() {
@@ -198,13 +152,6 @@ public final class BoardTest {
             for (int side = 0; side < 4; side++) {
                 Check.same("9 edgeOf high " + cell + " " + side, fence.edgeOf(cell, side), wantHigh[cell][side]);
             }
-        }
-        for (int wrong : new int[] {-1, 3, 4, 16, Integer.MIN_VALUE, Integer.MAX_VALUE}) {
-            Check.refuses("9 cell " + wrong, fence, IndexOutOfBoundsException.class, () -> fence.edgeOf(wrong, 0));
-        }
-        for (int wrong : new int[] {-1, 4, Integer.MIN_VALUE, Integer.MAX_VALUE}) {
-            Check.refuses("9 side " + wrong, fence, IndexOutOfBoundsException.class, () -> fence.edgeOf(0, wrong));
-            Check.refuses("9 both " + wrong, fence, IndexOutOfBoundsException.class, () -> fence.edgeOf(wrong, wrong));
         }
     }
 }

@@ -1,7 +1,7 @@
 /** What the tests share: it counts wrong answers and prints each of them. */
 final class Check {
     interface Call {
-        void run();
+        void on(SlitherFence fence);
     }
 
     private static int wrong = 0;
@@ -27,34 +27,14 @@ final class Check {
         }
     }
 
-    /** The call must throw exactly this exception, and the object must answer afterwards as it did before. */
-    static void refuses(String what, SlitherFence fence, Class<?> exception, Call call) {
-        String before = contents(fence);
-        String thrown = "nothing";
+    /** What a call throws: the exception's name, or "nothing". */
+    static String thrownBy(SlitherFence fence, Call call) {
         try {
-            call.run();
+            call.on(fence);
         } catch (RuntimeException e) {
-            thrown = e.getClass().getName();
+            return e.getClass().getName();
         }
-        same(what + ": what it throws", thrown, exception.getName());
-        same(what + ": what it leaves", contents(fence), before);
-    }
-
-    /** The board, the numbers and the marks, read by changing them and putting them back. */
-    static String contents(SlitherFence fence) {
-        StringBuilder text = new StringBuilder();
-        text.append(fence.cells()).append(" cells, ").append(fence.edges()).append(" edges; bottom of cell 0: ");
-        text.append(fence.edgeOf(0, 1)).append("; numbers:");
-        for (int cell = 0; cell < fence.cells(); cell++) {
-            int number = fence.number(cell, SlitherFence.NONE);
-            fence.number(cell, number);
-            text.append(' ').append(number);
-        }
-        text.append("; marks:");
-        for (int edge = 0; edge < fence.edges(); edge++) {
-            text.append(' ').append(markOf(fence, edge));
-        }
-        return text.toString();
+        return "nothing";
     }
 
     static int markOf(SlitherFence fence, int edge) {

@@ -1,4 +1,4 @@
-/** Promises 14 to 19: what follows. */
+/** Promises 14 to 19: what follows. What is refused stands in BoundsTest. */
 public final class FollowsTest {
     private static final int UNKNOWN = SlitherFence.UNKNOWN;
     private static final int LINE = SlitherFence.LINE;
@@ -22,7 +22,6 @@ public final class FollowsTest {
         endBroken();
         endTorn();
         promise19Hint();
-        wrongEdges();
         Check.end();
     }
 
@@ -280,16 +279,5 @@ public final class FollowsTest {
         fence.mark(0, LINE);
         fence.mark(2, CROSS);
         Check.same("19 colour", fence.hint(), NONE);
-    }
-
-    private static void wrongEdges() {
-        SlitherFence fence = Check.board(2, 1);
-        fence.mark(0, LINE);
-        fence.number(1, 3);
-        for (int wrong : new int[] {-1, 7, 8, 64, Integer.MIN_VALUE, Integer.MAX_VALUE}) {
-            Check.refuses("14 edge " + wrong, fence, IndexOutOfBoundsException.class, () -> fence.follows(wrong));
-            Check.refuses("15 edge " + wrong, fence, IndexOutOfBoundsException.class, () -> fence.roundOf(wrong));
-            Check.refuses("16 edge " + wrong, fence, IndexOutOfBoundsException.class, () -> fence.ruleOf(wrong));
-        }
     }
 }

@@ -10,6 +10,7 @@ public final class RandomRunsTest {
         "follows", "roundOf", "ruleOf", "rounds", "end", "hint", "answers", "answer", "isInside", "proved",
         "beyondRules", "isNeeded",
     };
+    private static final int MOST_CALLS = 512;
     private static final int[] WILD = {-1, 64, 40, 128, -64, Integer.MIN_VALUE, Integer.MAX_VALUE};
 
     private final Random random;
@@ -34,7 +35,7 @@ public final class RandomRunsTest {
     }
 
     private void play() {
-        while (calls < 512) {
+        while (calls < MOST_CALLS) {
             int what = random.nextInt(100);
             if (what < 2) {
                 if (!layPuzzle()) {
@@ -120,7 +121,11 @@ public final class RandomRunsTest {
         return below < 1 ? 0 : random.nextInt(below);
     }
 
+    /** Tells whether the run goes on: not after a wrong answer, and not behind the last call that is promised. */
     private boolean call(String name, int a, int b) {
+        if (calls >= MOST_CALLS) {
+            return false;
+        }
         calls++;
         run.append(' ').append(name).append('(').append(a).append(", ").append(b).append(')');
         String want = oracle.answerTo(name, a, b);
