@@ -9,8 +9,8 @@ public final class ReadmeTest {
             "SlitherFence fence = new SlitherFence();", "fence.lay(2, 2);", "fence.number(0, 3);",
             "fence.number(3, 1);", "fence.mark(fence.edgeOf(0, 0), SlitherFence.LINE);", "fence.hint();",
             "fence.follows(6);", "fence.ruleOf(6);", "fence.markAll();", "fence.answers();",
-            "if (fence.answers() > 0) {", "fence.answer(0);", "fence.isInside(0, 3);", "fence.proved(5);", "fence.beyondRules();", "}",
-            "fence.isNeeded(3);");
+            "if (fence.answers() > 0) {", "fence.answer(0);", "fence.isInside(0, 3);", "fence.proved(5);",
+            "fence.beyondRules();", "}", "fence.isNeeded(3);");
 
     public static void main(String[] args) throws IOException {
         Check.same("the calls of the example", callsOfExample(), String.join("\n", CALLS));
